@@ -833,17 +833,12 @@ public final class FrontierDesk {
         /** All among the members that rows of joined members lead to from those in start. */
         private int reach(int start, int members) {
             int reached = start;
-            for (int round = 0; round < MOST_POSTS; round++) {
-                int wider = reached;
-                for (int p = 0; p < MOST_POSTS; p++) {
-                    if ((reached >> p & 1) == 1) {
-                        wider |= near[p] & members;
-                    }
-                }
-                if (wider == reached) {
-                    break;
-                }
-                reached = wider;
+            int fresh = start;
+            for (int turn = 0; turn < MOST_POSTS && fresh != 0; turn++) {
+                int p = Integer.numberOfTrailingZeros(fresh);
+                int more = p < MOST_POSTS ? near[p] & members & ~reached : 0;
+                reached |= more;
+                fresh = fresh & (fresh - 1) | more;
             }
             return reached;
         }

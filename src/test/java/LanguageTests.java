@@ -114,7 +114,7 @@ public final class LanguageTests {
             Due.yes("import " + imports.group(1), imports.group(1).equals("java.util.Arrays"));
         }
         Matcher calls = Pattern.compile("\\b(Arrays|Math|Integer|Long)\\.(\\w+)").matcher(bare);
-        Set<String> known = Set.of("fill", "max", "min", "abs", "bitCount", "MAX_VALUE");
+        Set<String> known = Set.of("fill", "max", "min", "abs", "bitCount", "numberOfTrailingZeros", "MAX_VALUE");
         while (calls.find()) {
             Due.yes("library " + calls.group(), known.contains(calls.group(2)));
         }

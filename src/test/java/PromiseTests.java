@@ -99,6 +99,7 @@ public final class PromiseTests {
         Due.is("join", d.join(1, 0, 9, 1), 0);
         d.ground(1, 0, 1, 0, 50, 3);
         Due.is("send", d.send(0, 0, 1, 0, 9), 1);
+        d.feed(0, 0, 0, 0, 0);
         Due.yes("land(4, 16)", d.land(4, 16));
         Due.is("W", d.count(0), 4);
         Due.is("H", d.count(1), 16);
@@ -112,6 +113,7 @@ public final class PromiseTests {
         d.post(0, 0, 5, 5, true, 0);
         d.post(2, 0, 5, 5, true, 0);
         Due.is("HEIGHTS and WOODS are 0", d.way(0, 1), 20);
+        Due.is("the TAPE stays", d.feed(0, 0, 0, 0, 0), 40);
         Due.is("years by no NOTES", d.years(0, 0, 1), 500);
         d.post(6, 0, 5, 5, true, 0);
         Due.is("HAZE stays: 4 cells", d.sight(1, 2, 0, 0), 1);
@@ -120,6 +122,30 @@ public final class PromiseTests {
         Due.is("TREES of 2 stay", d.block(0, 1, false), NONE);
         d.ground(1, 0, 1, 0, 5, 0);
         Due.is("BEND stays: a tenth too high", d.block(0, 1, true), 1);
+        landEndsWhatWasKept();
+    }
+
+    /** What is worked out once and kept must not outlive the LAND. */
+    private static void landEndsWhatWasKept() {
+        FrontierDesk d = row(0, 3);
+        d.ground(1, 0, 1, 3, 100, 0);
+        Due.is("way over the wall", d.way(0, 1), 30 + 200 + 100);
+        d.note(1, 0, 100);
+        d.store(0, 7);
+        Due.is("years", d.years(0, 1, 3), 100);
+        Due.is("no QUARREL", d.quarrel(), NONE);
+        d.land(16, 4);
+        d.post(0, 0, 5, 5, true, 0);
+        d.post(3, 0, 5, 5, true, 0);
+        Due.is("no wall", d.way(0, 1), 30);
+        Due.is("no STORE", d.look(0, 4), 0);
+        d.note(1, 0, 200);
+        Due.is("other years", d.years(0, 1, 3), 200);
+        d.land(16, 4);
+        d.post(0, 0, 5, 5, true, 0);
+        d.note(0, 0, 5);
+        d.note(1, 0, 4);
+        Due.is("a QUARREL", d.quarrel(), 2);
     }
 
     private static void promise3Ground() {
@@ -344,6 +370,8 @@ public final class PromiseTests {
             Due.is("note " + i, d.note(0, 0, 250), i);
         }
         Due.is("a 61st", d.note(0, 0, 250), NONE);
+        Due.is("as KNOWN by all 60", d.years(0, 60, 2), 500);
+        Due.is("no QUARREL up to 60", d.quarrel(), NONE);
         Due.is("NOTES", d.count(3), 60);
     }
 
@@ -920,9 +948,31 @@ public final class PromiseTests {
         Due.is("no such WORD", d.heard(0, -1, 0), NONE);
         Due.is("no such what", d.heard(0, 0, 4), NONE);
         Due.is("no such what", d.heard(0, 0, -1), NONE);
+        lastWordAndPost();
         ordersOnceEach();
         ordersTwice();
         stopping();
+    }
+
+    /** Ten WORDS and twelve POSTS: the eleventh WORD is none, at no POST. */
+    private static void lastWordAndPost() {
+        FrontierDesk d = row(0, 1, 2, 3, 4, 5, 6, 7, 8, 9, 10, 11);
+        Due.rules(d, "word a 1;word b 2;word c 3;word d 4;word e 5;word f 6;word g 7;word h 8;word i 9;word j 1 1;"
+                + "order any a do send j;");
+        Due.is("send", d.send(11, 0, 0, 0, 9), 12);
+        for (int p = 0; p < 12; p++) {
+            Due.is("the tenth WORD at " + p, d.heard(p, 9, 0), p == 11 ? NONE : 5);
+            Due.is("the eleventh WORD at " + p, d.heard(p, 10, 0), NONE);
+        }
+        Due.is("send of the tenth", d.send(11, 9, 0, 0, 9), 1);
+        Due.is("at the twelfth", d.heard(11, 9, 0), 0);
+        Due.is("an eleventh", d.heard(10, 10, 0), NONE);
+        Due.is("send to 12", d.send(11, 0, 0, 0, 9), 12);
+        Due.is("11 seen", d.sent(0), 11);
+        Due.is("the first WORD at the first POST", d.send(0, 0, 0, 0, 9), 12);
+        Due.is("isn't the eleventh at the one before", d.heard(-1, 10, 0), NONE);
+        Due.is("send from 1", d.send(1, 0, 0, 0, 9), 12);
+        Due.is("the first at 1 isn't the eleventh at 0", d.heard(0, 10, 0), NONE);
     }
 
     /** Each order once at a POST, the next one at the next hearing, behind what is still done. */
@@ -1107,6 +1157,28 @@ public final class PromiseTests {
         d.store(1, 1);
         Due.is("the nearer one first: 19 from 2", d.supply(1), 19 * 40);
         Due.is("STORE of 2", d.look(2, 4), 50 - 5 - 19);
+        manyCarriers();
+    }
+
+    /** Twelve that feed themselves first, and then six with a little more for six with a little less. */
+    private static void manyCarriers() {
+        FrontierDesk d = new FrontierDesk();
+        d.land(16, 4);
+        for (int p = 0; p < 12; p++) {
+            d.post(p, 0, 1, 1, true, 10);
+            d.store(p, p < 6 ? 13 + p : 9 - p % 6);
+        }
+        // 13 .. 18 and 9 .. 4 are 132, 120 are eaten. 5 gives 6 one of its 8, 7 two, 8 three, 9 two;
+        // 4 gives 9 two, 10 five; 3 gives 11 six; then all have what they want.
+        int cost = 10 * (1 + 2 * 2 + 3 * 3 + 2 * 4 + 2 * 5 + 5 * 6 + 6 * 8);
+        Due.is("supply(1)", d.supply(1), cost);
+        int[] left = {3, 4, 5, 0, 0, 0, 0, 0, 0, 0, 0, 0};
+        for (int p = 0; p < 12; p++) {
+            Due.is("STORE of " + p, d.look(p, 4), left[p]);
+            Due.is("lacking at " + p, d.supplied(p, 1), 0);
+            Due.is("came to " + p, d.supplied(p, 0), 10);
+            Due.is("first from itself at " + p, d.supplied(p, 2), p);
+        }
     }
 
     private static void promise31Supplied() {

@@ -1,17 +1,44 @@
+import java.io.IOException;
 import java.nio.charset.StandardCharsets;
+import java.nio.file.Files;
+import java.nio.file.Path;
 import java.util.Arrays;
 
 /** What the tests share: answers that are due, and texts put on the TAPE. */
 final class Due {
+    private static final Path DOCUMENT = Path.of("../shared/DOC.md");
+
     private static int asked = 0;
     private static int wrong = 0;
     private static String part = "";
+    private static String document = null;
 
     private Due() {
     }
 
     static void part(String name) {
         part = name;
+    }
+
+    /** What follows tests this sentence; it must stand in the document just so. */
+    static void sentence(String words) {
+        part("\"" + words + "\"");
+        yes("the document says so", document().isEmpty() || document().contains(plain(words)));
+    }
+
+    private static String document() {
+        if (document == null) {
+            try {
+                document = Files.exists(DOCUMENT) ? plain(Files.readString(DOCUMENT)) : "";
+            } catch (IOException e) {
+                document = "";
+            }
+        }
+        return document;
+    }
+
+    private static String plain(String text) {
+        return text.replace("`", "").replaceAll("\\s+", " ");
     }
 
     static void is(String call, int got, int want) {

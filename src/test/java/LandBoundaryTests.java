@@ -461,6 +461,16 @@ public final class LandBoundaryTests {
         Due.is("56 thousandths above at k 7 first", d.block(2, 3, true), 16 + 7);
         d.bend(999);
         Due.is("14 times 0.999 is not above 14 at k 1, but 26 times is", d.block(2, 3, false), 16 + 2);
+        FrontierDesk e = land(16, 4);
+        e.ground(0, 0, 0, 0, 15, 0);
+        e.ground(15, 0, 15, 0, 17, 0);
+        e.post(0, 0, 40, 40, true, 0);
+        e.post(15, 0, 40, 40, true, 0);
+        e.bend(999);
+        Due.is("56 times 0.999 is above 839 fifteenths at k 7", e.block(0, 1, true), 7);
+        Due.is("but not above 841 fifteenths at k 7 from the other side, but at the next", e.block(1, 0, true), 7);
+        e.ground(0, 0, 0, 0, 16, 0);
+        Due.is("nor above 847 fifteenths", e.block(0, 1, true), NONE);
     }
 
     private static void eyes() {
@@ -624,6 +634,31 @@ public final class LandBoundaryTests {
             Due.is("HAZE of 2 stays", d.sight(0, 1, 3, 1), 1);
         }
         everyCellIsNew();
+        nothingIsKept();
+    }
+
+    /** What was asked of the old LAND's NOTES must not be answered again of the new one's. */
+    private static void nothingIsKept() {
+        FrontierDesk d = land(4, 4);
+        d.post(0, 0, 1, 1, true, 0);
+        d.note(0, 0, 100);
+        d.note(0, 0, 200);
+        Due.is("no QUARREL by 2", d.quarrel(), NONE);
+        Due.is("years by 2", d.years(0, 2, 2), 200);
+        d.land(4, 4);
+        d.post(0, 0, 1, 1, true, 0);
+        d.note(0, 0, 50);
+        d.note(1, 0, 60);
+        Due.is("other years by 2", d.years(0, 2, 2), 60);
+        d.land(4, 4);
+        d.post(0, 0, 1, 1, true, 0);
+        d.note(0, 0, 50);
+        d.note(1, 0, 49);
+        Due.is("a QUARREL by 2", d.quarrel(), 2);
+        d.land(4, 4);
+        d.post(0, 0, 1, 1, true, 0);
+        Due.is("no QUARREL by 0", d.quarrel(), NONE);
+        Due.is("years by 0", d.years(0, 0, 3), 500);
     }
 
     private static void everyCellIsNew() {

@@ -171,6 +171,15 @@ public final class LineBoundaryTests {
         Due.is("none", d.join(0, 0, 9, 1), 0);
         Due.is("one RIVAL", d.joined(0, 0), 1);
         Due.is("which is none of them", d.joined(2, 0), 0);
+        FrontierDesk less = row(5, 0, 10);
+        for (int x : new int[] {4, 7, 5}) {
+            less.post(x, 0, 1, 1, false, 0);
+        }
+        // 2 and 3 do it, too, and are the lesser number, but they are more.
+        Due.is("one is less than two", less.join(0, 0, 9, 1), 1);
+        Due.is("one RIVAL", less.joined(0, 0), 1);
+        Due.is("which is 4", less.joined(2, 0), 0b10000);
+        Due.is("no second one", less.joined(2, 1), NONE);
         FrontierDesk e = row(1, 0, 2, 4, 6, 8, 10);
         for (int x = 1; x < 10; x += 2) {
             e.post(x, 0, 1, 1, false, 0);
@@ -236,6 +245,20 @@ public final class LineBoundaryTests {
         for (int p = 0; p < 12; p++) {
             Due.is("SHARE of " + p, d.joined(1, p), p < 2 ? 0 : p < 6 ? 9 : 12);
         }
+        // The first and the last POST that there can be are the RIVALS.
+        FrontierDesk e = row(3);
+        e.post(6, 0, 1, 1, false, 0);
+        for (int x : new int[] {0, 1, 2, 3, 4, 9, 10, 11, 12, 13}) {
+            e.post(x, 0, 1, 1, true, 0);
+        }
+        e.post(7, 0, 1, 1, false, 0);
+        Due.is("one", e.join(0, 0, 9, 1), 1);
+        Due.is("the first RIVAL", e.joined(2, 0), 1);
+        Due.is("the second RIVAL", e.joined(2, 1), 1 << 11);
+        for (int p = 0; p < 12; p++) {
+            Due.is("SHARE of " + p, e.joined(1, p), p == 0 || p == 11 ? 1 : 0);
+        }
+        Due.is("the first is to DIG", e.dig(), 0);
     }
 
     private static void whereToDig() {

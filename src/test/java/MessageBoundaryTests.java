@@ -464,6 +464,12 @@ public final class MessageBoundaryTests {
         FrontierDesk e = row(1, QUICK + "like 2 1;order 0 a do pass;order 0 b do send a,send b;", 0, 1);
         e.haze(0, 0, 0, 1);
         e.send(0, 1, 0, 0, 9);
+        Due.is("of the latest send() alone", d.send(0, 1, 0, 0, 9), 1);
+        heard(d, 0, 1, 0, NONE, 1, 0);
+        unheard(d, 5, 0);
+        Due.is("again", d.send(0, 0, 0, 0, 9), 12);
+        heard(d, 0, 0, 0, NONE, 0, 0);
+        heard(d, 11, 0, 1, 0, 0, 11);
         heard(e, 1, 0, 1, 0, 0, 1);
         Due.is("the second was misread, but it was HEARD already", e.sent(2), 1);
         e.haze(0, 0, 0, 0);
@@ -488,6 +494,18 @@ public final class MessageBoundaryTests {
         Due.is("a POST that came later", d.post(5, 0, 1, 1, true, 0), 1);
         unheard(d, 1, 0);
         heard(d, 0, 0, 0, NONE, 0, 0);
+        // With ten WORDS the eleventh at one POST isn't the first at the next.
+        StringBuilder ten = new StringBuilder("look 0;minutes 1;order any a do pass;");
+        for (int i = 0; i < 10; i++) {
+            ten.append("word ").append((char) ('a' + i)).append(" 1 ").append(1 + i / 9).append(' ').append(1 + i % 9).append(';');
+        }
+        FrontierDesk e = row(15, ten.toString(), 0, 1, 2, 3, 4, 5, 6, 7, 8, 9, 10, 11);
+        Due.is("send", e.send(5, 0, 0, 0, 9), 12);
+        for (int p = 0; p < 12; p++) {
+            Due.is("the first WORD at " + p, e.heard(p, 0, 2), 0);
+            unheard(e, p, 9);
+            unheard(e, p, 10);
+        }
     }
 
     private static void promise27Sent() {

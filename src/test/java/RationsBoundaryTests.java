@@ -292,6 +292,20 @@ public final class RationsBoundaryTests {
         Due.is("it is enough", e.supply(1), 10 * 50 * 66);
         supplied(e, 11, 50, 0, 0);
         left(e, 9999 - 550);
+        // As many times as there can be: each time but the last ends one STORE or one want, not both.
+        int[] store = {24, 28, 8, 21, 32, 34, 18, 7, 18, 26, 11, 10};
+        int[] want = {20, 20, 20, 20, 20, 20, 20, 20, 20, 20, 20, 20};
+        FrontierDesk f = land(16, 4);
+        for (int p = 0; p < 12; p++) {
+            post(f, p, 20, store[p]);
+        }
+        long most = carried(f, store, want, 23);
+        Due.is("the 23rd time is the last", want[11], 3);
+        Due.is("supply", f.supply(1), (int) most);
+        left(f, store);
+        for (int p = 0; p < 12; p++) {
+            supplied(f, p, 20 - want[p], want[p], p);
+        }
     }
 
     /** The dearest LAND: each STEP goes 999 up or down, into WOOD 3. Four STORES, eight that want, far away. */
@@ -317,12 +331,20 @@ public final class RationsBoundaryTests {
         Due.is("the farthest way", d.way(0, 4), 15 * (1998 + 999) + 30 * 25);
         int[] store = {9999, 9999, 9999, 9999, 0, 0, 0, 0, 0, 0, 0, 0};
         int[] want = {0, 0, 0, 0, 4950, 4950, 4950, 4950, 4950, 4950, 4950, 4950};
+        long cost = carried(d, store, want, 24);
+        Due.yes("a great COST: " + cost, cost > 1_600_000_000L && cost < Integer.MAX_VALUE);
+        Due.is("supply(99)", d.supply(99), (int) cost);
+        left(d, store);
+    }
+
+    /** The COST of so many times carrying between twelve POSTS, by the desk's ways; STORES and wants change. */
+    private static long carried(FrontierDesk d, int[] store, int[] want, int turns) {
         int[] ways = new int[12 * 12];
         for (int i = 0; i < ways.length; i++) {
             ways[i] = d.way(i / 12, i % 12);
         }
         long cost = 0;
-        for (int turn = 0; turn < 24; turn++) {
+        for (int turn = 0; turn < turns; turn++) {
             int best = NONE;
             for (int i = 0; i < ways.length; i++) {
                 if (store[i / 12] > 0 && want[i % 12] > 0 && (best == NONE || ways[i] < ways[best])) {
@@ -336,9 +358,7 @@ public final class RationsBoundaryTests {
                 cost += (long) rations * ways[best];
             }
         }
-        Due.yes("a great COST: " + cost, cost > 1_600_000_000L && cost < Integer.MAX_VALUE);
-        Due.is("supply(99)", d.supply(99), (int) cost);
-        left(d, store);
+        return cost;
     }
 
     // ---- Promises

@@ -173,6 +173,16 @@ public final class RulesBoundaryTests {
         Due.fault("Word a 1;", 1, 0);
         Due.clean("word a 1;word aa 2;word aaaaaaaa 3;word aaaaaaab 4;word baaaaaaa 5;", 5);
         Due.clean("word zzzzzzzz 1;word zzzzzzzy 2;word z 3;", 3);
+        // Of one letter, no two of different length are the same, nor with another letter in front.
+        for (char letter = 'a'; letter <= 'z'; letter++) {
+            StringBuilder text = new StringBuilder();
+            for (int n = 1; n <= 8; n++) {
+                text.append("word ").append(times(n, "" + letter)).append(' ').append(n).append(';');
+            }
+            Due.clean(text.toString(), 8);
+            String other = letter == 'a' ? "z" : "a";
+            Due.clean("word " + letter + " 1;word " + other + letter + " 2;word " + letter + other + " 3;", 3);
+        }
     }
 
     private static void keysAreNoWords() {
@@ -290,6 +300,11 @@ public final class RulesBoundaryTests {
         Due.fault(times(9, "like 1 1;"), 2, 72);
         Due.fault(times(8, "like 1 1;") + "like", 2, 72);
         Due.clean(times(8, "like 1 1;") + "minutes 1;", 0);
+        FrontierDesk d = new FrontierDesk();
+        for (int i = 0; i < 4; i++) {
+            Due.is("eight again", Due.rules(d, times(8, "like 1 1;")), 0);
+            Due.is("nine", Due.rules(d, times(9, "like 1 1;")), NONE);
+        }
     }
 
     private static void mostOrders() {
@@ -315,6 +330,11 @@ public final class RulesBoundaryTests {
         }
         // Each order has four of its own; 16 times 4 is all there can be.
         counts("word a 1;" + times(16, "order 1 a do pass,pass,pass,stop;"), 1, 16, 2, 1);
+        FrontierDesk d = new FrontierDesk();
+        for (int i = 0; i < 4; i++) {
+            Due.is("four again", Due.rules(d, "word a 1;order 1 a do pass,pass,pass,stop;order 1 a do wait 1;"), 1);
+            Due.is("five", Due.rules(d, "word a 1;order 1 a do pass,pass,pass,stop,pass;"), NONE);
+        }
     }
 
     private static void minutesAndLookOnce() {
@@ -329,10 +349,16 @@ public final class RulesBoundaryTests {
         Due.fault("minutes 2;look 1; minutes 2;", 3, 18);
         Due.fault("minutes 2;look 1; look 1;", 3, 18);
         FrontierDesk d = new FrontierDesk();
-        Due.rules(d, "minutes 9;look 30;");
-        Due.rules(d, "word a 1;");
-        Due.is("without again: minutes", d.count(6), 2);
-        Due.is("without again: look", d.count(7), 1);
+        for (int i = 0; i < 3; i++) {
+            Due.rules(d, "minutes 9;look 30;");
+            Due.is("minutes", d.count(6), 9);
+            Due.rules(d, "word a 1;");
+            Due.is("without again: minutes", d.count(6), 2);
+            Due.is("without again: look", d.count(7), 1);
+            Due.rules(d, "word a 1;");
+            Due.is("without once more: minutes", d.count(6), 2);
+            Due.is("without once more: look", d.count(7), 1);
+        }
     }
 
     private static void noTokens() {
@@ -344,8 +370,12 @@ public final class RulesBoundaryTests {
                 Due.fault("" + (char) sign, 1, 0);
                 Due.fault("word" + (char) sign + "a 1;", 1, 4);
                 Due.fault("word a 1" + (char) sign + "2;", 1, 8);
+                Due.fault("order any a do pass" + (char) sign + "pass;", 1, 19);
+                Due.fault("look 1" + (char) sign, 1, 6);
             }
         }
+        Due.fault("order any a do pass abcdefghi pass;", 1, 20);
+        Due.fault("look 1 abcdefghi", 1, 7);
         Due.fault("minutess 1;", 1, 0);
         Due.fault("orderorder any a do pass;", 1, 0);
         Due.fault("word a 1;abcdefghi", 1, 9);
@@ -390,6 +420,28 @@ public final class RulesBoundaryTests {
         Due.is("cut by n, not by the TAPE", d.rules(8), NONE);
         Due.is("FAULT", d.fault(0), 1);
         Due.is("the length is n", d.fault(1), 8);
+        // Cut within a TOKEN: what is behind n doesn't count, nor what was on the TAPE before.
+        cut("word a 12;", 8, 1, 8);
+        cut("word ab 1;", 6, 1, 6);
+        cut("word a 1;minutes 25;", 18, 1, 18);
+        cut("word a 1;minutes 25;", 17, 1, 17);
+        cut("words a 1;", 4, 1, 4);
+        cut("wor", 2, 1, 0);
+        cut("look 31;", 6, 1, 6);
+        cut("order any a do passed;", 19, 1, 19);
+        Due.fault("word a 1;" + times(991, "a"), 1, 9);
+        Due.fault("word a 1;" + times(983, " ") + "like 1 1", 1, 1000);
+        Due.fault("word a 1;" + times(987, " ") + "like", 1, 1000);
+    }
+
+    private static void cut(String text, int n, int sort, int place) {
+        FrontierDesk d = new FrontierDesk();
+        Due.put(d, text + times(200, "a"));
+        d.rules(0);
+        Due.put(d, text);
+        Due.is("rules(" + n + ") of " + text, d.rules(n), NONE);
+        Due.is("FAULT", d.fault(0), sort);
+        Due.is("its place", d.fault(1), place);
     }
 
     private static void firstAlongTheText() {

@@ -325,6 +325,25 @@ public final class YearsBoundaryTests {
         for (int p = 0; p < 12; p++) {
             years(e, p, 300, 300, 300, 300);
         }
+        // Bounds that go on from NOTE to NOTE against the order in which they were told, and one at
+        // the end that changes nothing.
+        for (int up = 0; up < 2; up++) {
+            FrontierDesk f = posts(12);
+            for (int i = 0; i < 9; i++) {
+                int p = up == 0 ? i : 8 - i;
+                tell(f, STONES, p, p + 1);
+            }
+            tell(f, SIGNALLED, 10, 11);
+            tell(f, NOT_YET, 9, 200);
+            tell(f, BURNT, 0, 300);
+            for (int p = 1; p < 10; p++) {
+                years(f, p, 200, 300, 200, 300);
+            }
+            years(f, 0, 200, 300, 300, 300);
+            years(f, 10, 0, 500, 0, 500);
+            tell(f, SIGNALLED, 11, 10);
+            years(f, 5, 200, 300, 200, 300);
+        }
     }
 
     private static void quarrels() {

@@ -29,6 +29,7 @@ public final class LandBoundaryTests {
         eyes();
         sureReach();
         mayIfNotSure();
+        linkedBothWays();
         raises();
         promise1NewObject();
         promise2AnotherLand();
@@ -542,6 +543,30 @@ public final class LandBoundaryTests {
         Due.is("over 2, back", d.sight(1, 0, 0, 0), over2);
         d.ground(1, 0, 1, 0, 1, 0);
         Due.is("over 1", d.sight(0, 1, 0, 0), overOne);
+    }
+
+    private static void linkedBothWays() {
+        Due.sentence("They are LINKED as well as the lesser of SIGHT there and back says.");
+        int[] seen = new int[3];
+        for (int i = 0; i < 256; i++) {
+            FrontierDesk d = land(16, 16);
+            int x = i % 16;
+            int y = i / 16;
+            d.post(8, 7, 5, 9, true, 0);
+            if (d.post(x, y, 5, 9, true, 0) == NONE) {
+                continue;
+            }
+            d.note(0, 0, 9);
+            d.note(0, 1, 9);
+            d.ground(0, 0, 15, 4, i % 7, 0);
+            d.ground(5, 0, 6, 15, 4 + (3 * x + y) % 8, 0);
+            d.ground(10, 8, 12, 12, i % 13, 0);
+            int link = Math.min(d.sight(0, 1, 0, 0), d.sight(1, 0, 0, 0));
+            seen[link]++;
+            Due.is("GROUPS at LEVEL 1", d.groups(0, 0, 9, 1), link >= 1 ? 1 : 2);
+            Due.is("GROUPS at LEVEL 2", d.groups(0, 0, 9, 2), link == 2 ? 1 : 2);
+        }
+        Due.yes("some of each: " + Arrays.toString(seen), seen[0] > 9 && seen[1] > 9 && seen[2] > 9);
     }
 
     private static void raises() {

@@ -1,4 +1,5 @@
 import java.io.IOException;
+import java.lang.reflect.Array;
 import java.lang.reflect.Constructor;
 import java.lang.reflect.Field;
 import java.lang.reflect.Method;
@@ -7,6 +8,8 @@ import java.nio.file.Files;
 import java.nio.file.Path;
 import java.util.ArrayList;
 import java.util.Arrays;
+import java.util.Collections;
+import java.util.IdentityHashMap;
 import java.util.List;
 import java.util.Set;
 import java.util.TreeSet;
@@ -36,6 +39,7 @@ public final class LanguageTests {
         classes();
         words(bare(source));
         lengths(bare(source));
+        room();
         Due.end();
     }
 
@@ -138,5 +142,43 @@ public final class LanguageTests {
             }
         }
         Due.yes("methods were found", methods > 100);
+    }
+
+    /** Calls make nothing (WildTests), so what an object takes is what its constructor makes. */
+    private static void room() {
+        Set<Object> made = Collections.newSetFromMap(new IdentityHashMap<>());
+        int elements = elementsOf(new FrontierDesk(), made);
+        Due.yes(made.size() + " objects and arrays", made.size() <= 120);
+        Due.yes(elements + " fields and elements", elements > 1000 && elements <= 9000);
+    }
+
+    private static int elementsOf(Object of, Set<Object> made) {
+        if (of == null || !made.add(of)) {
+            return 0;
+        }
+        if (of.getClass().isArray()) {
+            int elements = Array.getLength(of);
+            for (int i = 0; of instanceof Object[] && i < Array.getLength(of); i++) {
+                elements += elementsOf(Array.get(of, i), made);
+            }
+            return elements;
+        }
+        int elements = 0;
+        for (Field f : of.getClass().getDeclaredFields()) {
+            if (!Modifier.isStatic(f.getModifiers())) {
+                elements += 1 + (f.getType().isPrimitive() ? 0 : elementsOf(valueOf(f, of), made));
+            }
+        }
+        return elements;
+    }
+
+    private static Object valueOf(Field f, Object of) {
+        try {
+            f.setAccessible(true);
+            return f.get(of);
+        } catch (IllegalAccessException e) {
+            Due.yes("field " + f.getName() + " can be read", false);
+            return null;
+        }
     }
 }
